@@ -225,12 +225,12 @@ public final class OneDidAll {
         if (what != 0 && what != 1) return NONE;
         if (now.group.size < 2) return NOTHING;
         int all = (1 << now.group.size) - 1;
-        int least = Integer.MAX_VALUE;
+        int least = 0;
         int best = 0;
         // Odd sets are those with PUPIL 0; all of them would leave nobody to the other set.
         for (int set = 1; set < all; set += 2) {
             int far = Math.abs(forecast.workOf(now, set, 10) - forecast.workOf(now, all - set, 10));
-            if (far < least) {
+            if (best == 0 || far < least) {
                 least = far;
                 best = set;
             }
@@ -698,7 +698,7 @@ public final class OneDidAll {
         private final int[] rows = new int[MOST_PUPILS * ROW];
         private final int[] does = new int[MOST_PUPILS];
 
-        /** The number of the new one. An undo may have left another's numbers in its place. */
+        /** The number of the new one. An undo may have left an undone one's numbers in its place. */
         int add(int kind, int v, int skill, int will) {
             if (size >= MOST_PUPILS) return FULL;
             kinds[size] = kind;
@@ -716,7 +716,7 @@ public final class OneDidAll {
             size = other.size;
             week = other.week;
             work = other.work;
-            for (int p = 0; p < MOST_PUPILS; p++) {
+            for (int p = 0; p < size; p++) {
                 kinds[p] = other.kinds[p];
                 vs[p] = other.vs[p];
                 skills[p] = other.skills[p];
@@ -724,7 +724,7 @@ public final class OneDidAll {
                 hours[p] = other.hours[p];
                 outs[p] = other.outs[p];
             }
-            System.arraycopy(other.rows, 0, rows, 0, rows.length);
+            System.arraycopy(other.rows, 0, rows, 0, size * ROW);
         }
 
         /** What a TEST looks at: one of pkvshw, by its place there. */

@@ -40,6 +40,20 @@ public final class GroupsTest {
         y.pupil(0, 0, 1, 9);
         y.pupil(0, 0, 1, 9);
         Check.due("throwOut(): as much is not greater", y.throwOut(), -5);
+        // In 20 WEEKS the leader would do 20 more; the other does 10 (or 9) in WEEKS 9 and 19.
+        Check.due("throwOut(): 20 for 20", rareWorker(10).throwOut(), -5);
+        Check.due("throwOut(): 20 for 18", rareWorker(9).throwOut(), 1);
+        OneDidAll z = Check.taught("shirk 5 p<5");
+        for (int i = 0; i < 5; i++) z.pupil(0, 0, 1, 9);
+        z.pupil(4, 0, 1, 99);
+        Check.due("throwOut(): the first of six", z.throwOut(), 0);
+    }
+
+    private static OneDidAll rareWorker(int does) {
+        OneDidAll x = Check.taught("shirk 5 p=1;spur " + does + " p=1&w=9");
+        x.pupil(4, 0, 1, 99);
+        x.pupil(0, 0, 1, 99);
+        return x;
     }
 
     private static void alone() {
@@ -106,6 +120,12 @@ public final class GroupsTest {
         OneDidAll z = skilledOnes(1, 1, 1, 1, 1, 9);
         Check.due("split(0): one in the other set", z.split(0), 31);
         Check.due("split(1)", z.split(1), 200);
+        OneDidAll u = Check.taught("shirk 5 p=1");
+        u.pupil(4, 0, 9, 99);
+        u.pupil(0, 0, 1, 99);
+        // All in one set would be nearer: 450 and 0 in place of 540 and 0.
+        Check.due("split(0): one at least in each", u.split(0), 1);
+        Check.due("split(1)", u.split(1), 540);
     }
 
     private static void part() {
@@ -142,11 +162,25 @@ public final class GroupsTest {
         z.pupil(0, 0, 9, 99);
         Check.due("part(0, 0) of nothing", z.part(0, 0), 0);
         Check.due("part(0, 1) of nothing", z.part(0, 1), 1);
+        // Behind s of five others a leader's coming is worth 50 - 5 s; of four 45 - 5 s; of three 40 - 5 s.
+        partOfLeader(5, 75, 2, 45, 2);
+        partOfLeader(4, 35, 1, 45, 2);
+        partOfLeader(3, 65, 2, 45, 2);
         OneDidAll u = new OneDidAll();
         u.pupil(4, 0, 9, 99);
         u.pupil(0, 0, 1, 0);
         // Ahead 5 * 54 alone; the idle one comes first to nothing, or takes 45 away and does 10.
         Check.due("part(1, 0): below 0", u.part(1, 0), -35);
         Check.due("part(1, 1)", u.part(1, 1), 2);
+    }
+
+    private static void partOfLeader(int others, long above, long below, long aboveOthers, long belowOthers) {
+        OneDidAll x = new OneDidAll();
+        x.pupil(4, 0, 1, 99);
+        for (int i = 0; i < others; i++) x.pupil(0, 0, 1, 99);
+        Check.due("part(0, 0) beside " + others, x.part(0, 0), above);
+        Check.due("part(0, 1) beside " + others, x.part(0, 1), below);
+        Check.due("part(1, 0) of " + others, x.part(1, 0), aboveOthers);
+        Check.due("part(1, 1) of " + others, x.part(1, 1), belowOthers);
     }
 }

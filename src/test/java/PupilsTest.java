@@ -110,6 +110,8 @@ public final class PupilsTest {
         fault("shirk 1;", 7);
         fault("spur 1  p=1", 7);
         fault("spur 1 q=1", 7);
+        fault("spur 1 =1", 7);
+        fault("spur 1 p1", 8);
         fault("spur 1 p", 8);
         fault("spur 1 p!1", 8);
         fault("spur 1 p =1", 8);
@@ -190,6 +192,14 @@ public final class PupilsTest {
         };
         for (String test : yes) Check.due("ZEAL by spur 9 " + test, leaderBy("spur 9 " + test).of(1, 6), 14);
         for (String test : no) Check.due("ZEAL by spur 9 " + test, leaderBy("spur 9 " + test).of(1, 6), 5);
+        OneDidAll later = Check.taught("spur 9 w=3&p=0;spur 20 h=1&p=0");
+        later.pupil(0, 0, 1, 1);
+        later.pass(13);
+        Check.due("ZEAL in WEEK 13, behind 13 HOURS", later.of(0, 6), 34);
+        later.pass(6);
+        Check.due("ZEAL in WEEK 19, behind 19 HOURS", later.of(0, 6), 25);
+        later.pass(1);
+        Check.due("ZEAL in WEEK 20, behind 20 HOURS", later.of(0, 6), 5);
         Check.due("ZEAL by shirk", leaderBy("shirk 3 p=1").of(1, 6), 2);
         Check.due("ZEAL, 0 at least", leaderBy("shirk 9 p=1").of(1, 6), 0);
         Check.due("ZEAL of all together", leaderBy("shirk 9 p=1;spur 6 k=4;spur 7 p=0;shirk 1 w=3").of(1, 6), 1);
@@ -377,6 +387,11 @@ public final class PupilsTest {
         Check.teach(x, "goal 0");
         Check.due("told(2): 1 at least", x.told(2), 1);
         Check.due("told(6) by that goal", x.told(6), 100);
+        Check.due("told(6) by that goal without WORK", Check.taught("goal 0").told(6), 0);
+        OneDidAll y = Check.taught("goal 99;spur 9 p=0");
+        y.pupil(0, 0, 7, 14);
+        Check.due("pass(1)", y.pass(1), 98);
+        Check.due("told(6), cut", y.told(6), 98);
     }
 
     private static void mark() {
@@ -490,6 +505,11 @@ public final class PupilsTest {
         Check.due("pass(0) there", x.pass(0), 99999);
         Check.due("on(60, 0): not held", x.on(60, 0), 60 * 2 * 99 * 9);
         Check.due("on(60, 1): not held", x.on(60, 1), 60 * 2 * 99);
+        Check.due("alone(0): not held", x.alone(0), 20 * 99 * 9);
+        Check.due("part(1, 0): not held", x.part(1, 0), 5 * 99 * 9);
+        x.see(2 * 99 * 9, 1);
+        Check.due("skilled(0, 1): not held", x.skilled(0, 1), 9);
+        Check.due("firm(0, 0): not held", x.firm(0, 0), 10);
         Check.due("told(0)", x.told(0), 9999);
     }
 }

@@ -116,6 +116,8 @@ public final class SeenTest {
         OneDidAll x = new OneDidAll();
         Check.due("odds without pupils", x.odds(0, 0, 0), NO);
         x.pupil(0, 0, 1, 99);
+        dueOdds(x, 2, 0, 1, 1);
+        dueOdds(x, 2, 1, 0, 1);
         x.pupil(0, 0, 2, 99);
         x.pupil(0, 0, 3, 99);
         // In 2 WEEKS 50, 40, 30 without the first, the second, the third.
@@ -153,6 +155,7 @@ public final class SeenTest {
         OneDidAll x = new OneDidAll();
         Check.due("mean without pupils", x.mean(0, 1), NO);
         x.pupil(0, 0, 1, 4);
+        Check.due("mean(1, 0) of one", x.mean(1, 0), 4);
         x.pupil(0, 0, 2, 99);
         x.pupil(0, 0, 3, 99);
         x.pass(3);

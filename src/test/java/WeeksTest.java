@@ -120,6 +120,11 @@ public final class WeeksTest {
         for (int rule = 0; rule < 4; rule++) Check.due("spread(" + rule + ") of one", x.spread(rule), 0);
         x.out(1, true);
         for (int rule = 0; rule < 4; rule++) Check.due("spread(" + rule + "): all are OUT", x.spread(rule), 0);
+        OneDidAll y = Check.taught("goal 5");
+        y.pupil(0, 0, 1, 99);
+        for (int rule = 0; rule < 4; rule++) Check.due("spread(" + rule + ") without WORK", y.spread(rule), 0);
+        y.pass(1);
+        for (int rule = 0; rule < 4; rule++) Check.due("spread(" + rule + ") by BASE 100", y.spread(rule), 0);
         Check.due("spread(-1)", x.spread(-1), NONE);
         Check.due("spread(4)", x.spread(4), NONE);
     }
@@ -137,6 +142,14 @@ public final class WeeksTest {
         x.out(2, true);
         // One alone has 50 by RULES 0, 1, 2.
         Check.due("nearest(): of several the first", x.nearest(), 0);
+        OneDidAll w = Check.taught("goal 22;spur 1 p=0");
+        w.pupil(0, 0, 1, 99);
+        w.pupil(3, 0, 1, 99);
+        w.pass(1);
+        // By HOURS 54 and 45; RULE 0 is 4 + 5 away, RULE 2 17 + 17, RULE 3 49 + 40.
+        Check.due("mark(0, 1)", w.mark(0, 1), 54);
+        Check.due("mark(0, 2)", w.mark(0, 2), 37);
+        Check.due("nearest()", w.nearest(), 0);
         OneDidAll y = Check.taught("goal 99;spur 94 p=0");
         y.pupil(0, 0, 1, 99);
         y.pupil(2, 9, 1, 0);
