@@ -2,8 +2,14 @@
 final class Check {
     private static int passed = 0;
     private static int failed = 0;
+    private static String sentence = "";
 
     private Check() {
+    }
+
+    /** The sentence of the document by which the next answers are due. */
+    static void by(String words) {
+        sentence = "[" + words + "] ";
     }
 
     static void due(String call, long got, long want) {
@@ -12,7 +18,7 @@ final class Check {
             return;
         }
         failed++;
-        System.out.println(call + " answered " + got + ", due is " + want);
+        System.out.println(sentence + call + " answered " + got + ", due is " + want);
     }
 
     /** The closing line; exit code 1 if an answer was not as due. */

@@ -2,13 +2,15 @@ import java.util.Random;
 
 /** All promises: long runs of calls, drawn with fixed seeds, answered as the Model answers them. */
 public final class ModelTest {
-    private static final int RUNS = 600, CALLS = 300;
+    /** What an object answers behind its 512th call is free. */
+    private static final int RUNS = 1200, MOST_CALLS = 512;
 
     private final Random random;
     private final int run;
     private final OneDidAll x = new OneDidAll();
     private final Model m = new Model();
     private boolean same = true;
+    private int calls = 0;
 
     private ModelTest(int run) {
         this.run = run;
@@ -24,10 +26,12 @@ public final class ModelTest {
         int first = below(8);
         for (int i = 0; i < first; i++) aPupil();
         if (below(4) > 0) aClass();
-        for (int i = 0; i < CALLS && same; i++) call();
+        for (int i = 0; i < MOST_CALLS && calls < MOST_CALLS && same; i++) call();
     }
 
     private void due(String call, long got, long want) {
+        calls++;
+        if (calls > MOST_CALLS) return;
         if (got != want) same = false;
         Check.due("run " + run + ": " + call, got, want);
     }
