@@ -347,9 +347,9 @@ public final class OneDidAll {
         acts.v = now.group.vs[pupil];
         acts.i = pupil;
         switch (act) {
-            case 0: return acts.thinks(acts.kind, x);
-            case 1: return acts.writes(acts.kind, x);
-            case 2: return acts.tells(acts.kind, x);
+            case 0: return acts.thinks(acts.kind, x, 0);
+            case 1: return acts.writes(acts.kind, x, 0);
+            case 2: return acts.tells(acts.kind, x, 0);
             default: return 0;
         }
     }
@@ -969,6 +969,9 @@ public final class OneDidAll {
 
     /** The BODIES, and THE TRACE of the latest act. */
     private static final class Acts {
+        /** Three KINDS at most stand above one another, and an act goes from tells to writes to thinks alone. */
+        private static final int DEEPEST = 9;
+
         private final int[] kept = new int[MOST_KEPT];
         private int ran = 0;
         private int kind = PUPIL;
@@ -981,48 +984,51 @@ public final class OneDidAll {
         }
 
         /** The first body from a KIND on upwards; super's are asked from the KIND above the body's. */
-        int thinks(int from, int x) {
+        private int thinks(int from, int x, int deep) {
+            if (deep > DEEPEST) return 0;
             switch (from) {
                 case KEEN:
                 case LEADER:
                     begins(11);
-                    return thinks(PUPIL, x * 3);
+                    return thinks(PUPIL, x * 3, deep + 1);
                 case SHY:
                     begins(51);
-                    return thinks(IDLE, x) ^ i;
+                    return thinks(IDLE, x, deep + 1) ^ i;
                 default:
                     begins(1);
                     return x + i;
             }
         }
 
-        int writes(int from, int x) {
+        private int writes(int from, int x, int deep) {
+            if (deep > DEEPEST) return 0;
             switch (from) {
                 case TOLD:
                     begins(61);
-                    return writes(BOASTER, x) + v;
+                    return writes(BOASTER, x, deep + 1) + v;
                 case IDLE:
                 case SHY:
                     begins(21);
-                    return -writes(PUPIL, x);
+                    return -writes(PUPIL, x, deep + 1);
                 default:
                     begins(2);
-                    return thinks(kind, x) - v;
+                    return thinks(kind, x, deep + 1) - v;
             }
         }
 
-        int tells(int from, int x) {
+        private int tells(int from, int x, int deep) {
+            if (deep > DEEPEST) return 0;
             switch (from) {
                 case BOASTER:
                 case TOLD:
                     begins(31);
-                    return tells(PUPIL, x) ^ 7;
+                    return tells(PUPIL, x, deep + 1) ^ 7;
                 case LEADER:
                     begins(41);
-                    return tells(KEEN, x - 1) + thinks(kind, 2);
+                    return tells(KEEN, x - 1, deep + 1) + thinks(kind, 2, deep + 1);
                 default:
                     begins(3);
-                    return writes(kind, x) * 2;
+                    return writes(kind, x, deep + 1) * 2;
             }
         }
     }

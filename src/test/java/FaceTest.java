@@ -8,6 +8,7 @@ import java.nio.file.Path;
 import java.util.Arrays;
 import java.util.Set;
 import java.util.TreeSet;
+import java.util.regex.Matcher;
 import java.util.regex.Pattern;
 
 /** The public face, and what LANGUAGE.md rules out as far as it can be seen from outside. Run at the project's root. */
@@ -25,10 +26,14 @@ public final class FaceTest {
         "\\bhashCode\\b", "\\btoString\\b", "\\bObject\\b", "[^\\x00-\\x7e]",
     };
 
+    /** Its indent, the words ahead of its name, its name, its parameters, its body. */
+    private static final Pattern METHOD = Pattern.compile("(?ms)^( {4,8})((?:[\\w\\[\\]]+ )+)(\\w+)\\(([^)]*)\\) \\{\n(.*?)^\\1\\}");
+
     public static void main(String[] args) throws IOException, IllegalAccessException {
         face();
         insides();
         source();
+        methods();
         Check.end();
     }
 
@@ -88,5 +93,25 @@ public final class FaceTest {
             Check.due("the source holds " + one, Pattern.compile(one).matcher(code).find() ? 1 : 0, 0);
         }
         Check.due("the source is of signs 1 to 126", text.chars().allMatch(c -> c < 127) ? 1 : 0, 1);
+    }
+
+    /** LANGUAGE.md, rules 8 and 11: one that calls itself is private and carries its depth; methods are short. */
+    private static void methods() throws IOException {
+        String code = Files.readString(Path.of("src/main/java/OneDidAll.java"));
+        Matcher method = METHOD.matcher(code);
+        int methods = 0;
+        int recursive = 0;
+        while (method.find()) {
+            methods++;
+            String name = method.group(3);
+            String body = method.group(5);
+            Check.due(name + " is of some sixty lines at most", body.lines().count() <= 60 ? 1 : 0, 1);
+            if (!Pattern.compile("(?<![.\\w])" + name + "\\(").matcher(body).find()) continue;
+            recursive++;
+            Check.due(name + " is private", method.group(2).startsWith("private ") ? 1 : 0, 1);
+            Check.due(name + " carries its depth", method.group(4).matches(".*int (open|deep)") ? 1 : 0, 1);
+        }
+        Check.due("methods were found", methods > 80 ? 1 : 0, 1);
+        Check.due("methods that call themselves", recursive, 4);
     }
 }
